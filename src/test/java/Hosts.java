@@ -1,0 +1,58 @@
+/** Hosts in the states from which many tests start, and the words that they share. */
+final class Hosts {
+    static final int GROUP = 65535;
+
+    static final int TENTATIVE = 1;
+    static final int PREFERRED = 2;
+    static final int DEPRECATED = 3;
+    static final int DUPLICATE = 4;
+
+    static final int SOUGHT = 1;
+    static final int REACHABLE = 2;
+    static final int STALE = 3;
+    static final int DELAY = 4;
+    static final int PROBED = 5;
+
+    static final int ROUTER = 1024;
+    static final int WAITS = 2048;
+
+    private Hosts() {
+    }
+
+    static int address(int prefix, int id) {
+        return 256 * prefix + id;
+    }
+
+    static int local(int id) {
+        return address(1, id);
+    }
+
+    static int owned(int state, int address) {
+        return 65536 * state + address;
+    }
+
+    static int known(int state, int number) {
+        return state + 8 * number;
+    }
+
+    /** At time 2, with its local address preferred. */
+    static LinkHost ready(int id) {
+        LinkHost host = new LinkHost(id);
+        host.tick(2);
+        return host;
+    }
+
+    /** At time 4, with a local address and one of the on-link prefix 5, both of them preferred. */
+    static LinkHost withPrefix(int id) {
+        LinkHost host = ready(id);
+        host.prefix(5, 3, 1000, 1000);
+        host.tick(2);
+        return host;
+    }
+
+    static LinkHost down(int id) {
+        LinkHost host = new LinkHost(id);
+        host.asked(0, local(id), 1);
+        return host;
+    }
+}
