@@ -252,8 +252,8 @@ public final class LinkHost {
 
     public int own(int i) throws IndexOutOfBoundsException {
         requireIndex(i, owns.length());
-        OwnAddress address = owns.at(i);
-        return address.address + 65536 * address.state;
+        OwnAddress found = owns.at(i);
+        return found.address + 65536 * found.state;
     }
 
     public int until(int i) throws IndexOutOfBoundsException {
@@ -359,15 +359,15 @@ public final class LinkHost {
         }
     }
 
-    private void ageOwn(OwnAddress address) {
-        boolean preferredIsOver = time >= address.preferredEnd;
-        if (address.state == PREFERRED && preferredIsOver) {
-            address.state = DEPRECATED;
-        } else if (address.state == TENTATIVE) {
-            if (time - address.formedAt < PROBING_TICKS) {
-                probe(address);
+    private void ageOwn(OwnAddress aged) {
+        boolean preferredIsOver = time >= aged.preferredEnd;
+        if (aged.state == PREFERRED && preferredIsOver) {
+            aged.state = DEPRECATED;
+        } else if (aged.state == TENTATIVE) {
+            if (time - aged.formedAt < PROBING_TICKS) {
+                probe(aged);
             } else {
-                address.state = preferredIsOver ? DEPRECATED : PREFERRED;
+                aged.state = preferredIsOver ? DEPRECATED : PREFERRED;
             }
         }
     }
@@ -394,13 +394,13 @@ public final class LinkHost {
         probe(formed);
     }
 
-    private void probe(OwnAddress address) {
-        out.add(OUT_PROBE, GROUP, address.address);
+    private void probe(OwnAddress tentative) {
+        out.add(OUT_PROBE, GROUP, tentative.address);
     }
 
-    private void markDuplicate(OwnAddress address) {
-        address.state = DUPLICATE;
-        if (isLocal(address.address)) {
+    private void markDuplicate(OwnAddress tentative) {
+        tentative.state = DUPLICATE;
+        if (isLocal(tentative.address)) {
             down = true;
         }
     }
@@ -424,16 +424,16 @@ public final class LinkHost {
         }
     }
 
-    private void renew(OwnAddress address, int valid, int preferred) {
-        address.preferredEnd = endOf(preferred);
-        if (address.state != TENTATIVE) {
-            address.state = preferred == 0 ? DEPRECATED : PREFERRED;
+    private void renew(OwnAddress formed, int valid, int preferred) {
+        formed.preferredEnd = endOf(preferred);
+        if (formed.state != TENTATIVE) {
+            formed.state = preferred == 0 ? DEPRECATED : PREFERRED;
         }
-        int left = address.validEnd - time;
+        int left = formed.validEnd - time;
         if (valid > GUARDED_LIFE || valid > left) {
-            address.validEnd = endOf(valid);
+            formed.validEnd = endOf(valid);
         } else if (left > GUARDED_LIFE) {
-            address.validEnd = endOf(GUARDED_LIFE);
+            formed.validEnd = endOf(GUARDED_LIFE);
         }
     }
 
