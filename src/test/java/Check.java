@@ -5,6 +5,7 @@ final class Check {
     }
 
     private final String name;
+    private String words = "";
     private int passed = 0;
     private int failed = 0;
 
@@ -12,13 +13,17 @@ final class Check {
         this.name = name;
     }
 
+    /** The words of the document that the checks are about from now on. */
+    void under(String wordsOfTheDocument) {
+        words = " \"" + wordsOfTheDocument + "\"";
+    }
+
     void due(String what, long got, long want) {
-        if (got == want) {
-            passed++;
-        } else {
-            failed++;
-            System.out.println(name + ": " + what + " answered " + got + ", due is " + want);
-        }
+        note(got == want, what + " answered " + got + ", due is " + want);
+    }
+
+    void same(String what, String got, String want) {
+        note(got.equals(want), what + " is " + got + ", due is " + want);
     }
 
     void badArgument(String what, Call call) {
@@ -33,6 +38,10 @@ final class Check {
         dueThrow(what, call, IndexOutOfBoundsException.class);
     }
 
+    void goesThrough(String what, Call call) {
+        dueThrow(what, call, null);
+    }
+
     /** What was sent i before the latest. */
     void out(String what, LinkHost host, int i, int kind, int to, int x) {
         due(what + ": kind", host.outKind(i), kind);
@@ -42,16 +51,31 @@ final class Check {
 
     private void dueThrow(String what, Call call, Class<?> wanted) {
         Class<?> thrown = null;
+        boolean byItself = false;
         try {
             call.make();
         } catch (RuntimeException e) {
             thrown = e.getClass();
+            byItself = !isThrownByTheClass(e);
         }
-        if (thrown == wanted) {
+        note(thrown == wanted, what + " threw " + thrown + ", due is " + wanted);
+        if (byItself) {
+            note(false, what + " threw by itself, not by a throw statement of the class");
+        }
+    }
+
+    /** Rule 7 of LANGUAGE.md: what the library throws is not as due, even if its kind is. */
+    private static boolean isThrownByTheClass(RuntimeException e) {
+        StackTraceElement[] trace = e.getStackTrace();
+        return trace.length > 0 && trace[0].getClassName().equals("LinkHost");
+    }
+
+    private void note(boolean asDue, String told) {
+        if (asDue) {
             passed++;
         } else {
             failed++;
-            System.out.println(name + ": " + what + " threw " + thrown + ", due is " + wanted);
+            System.out.println(name + words + ": " + told);
         }
     }
 

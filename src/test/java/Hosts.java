@@ -1,5 +1,6 @@
 /** Hosts in the states from which many tests start, and the words that they share. */
 final class Hosts {
+    static final int NONE = 0;
     static final int GROUP = 65535;
 
     static final int TENTATIVE = 1;
@@ -54,5 +55,44 @@ final class Hosts {
         LinkHost host = new LinkHost(id);
         host.asked(0, local(id), 1);
         return host;
+    }
+
+    /** Any number of ticks, in as few calls as can be. */
+    static void pass(LinkHost host, int ticks) {
+        for (int left = ticks; left > 0; left -= 100) {
+            host.tick(Math.min(left, 100));
+        }
+    }
+
+    /** A packet comes with these headers, each told by its kind and its number. */
+    static int come(LinkHost host, int from, int to, int... kindsAndNumbers) {
+        for (int i = 0; i < kindsAndNumbers.length; i += 2) {
+            host.header(kindsAndNumbers[i], kindsAndNumbers[i + 1]);
+        }
+        return host.come(from, to);
+    }
+
+    /** All that can be seen of a host, but for the headers; of neighbours and paths, the given. */
+    static String seen(LinkHost host, int... addresses) {
+        StringBuilder text = new StringBuilder("counts");
+        for (int which = 0; which <= 11; which++) {
+            text.append(' ').append(host.count(which));
+        }
+        text.append(", own");
+        int owns = host.count(1);
+        for (int i = 0; i < owns; i++) {
+            text.append(' ').append(host.own(i)).append(" until ").append(host.until(i));
+        }
+        text.append(", out");
+        int held = Math.min(host.count(6), 12);
+        for (int i = 0; i < held; i++) {
+            text.append(' ').append(host.outKind(i)).append('/').append(host.outTo(i));
+            text.append('/').append(host.outX(i));
+        }
+        for (int address : addresses) {
+            text.append(", ").append(address).append(" neighbour ").append(host.neighbour(address));
+            text.append(" size ").append(host.sizeTo(address));
+        }
+        return text.toString();
     }
 }

@@ -30,10 +30,12 @@ public final class OutTest {
     }
 
     private static void holdsTheLatestTwelve() {
-        LinkHost host = Hosts.ready(7);
         for (int sent = 3; sent <= 40; sent++) {
-            host.header(5, sent % 4);
-            host.come(Hosts.local(sent), Hosts.local(7));
+            LinkHost host = Hosts.ready(7);
+            for (int k = 3; k <= sent; k++) {
+                host.header(5, k % 4);
+                host.come(Hosts.local(k), Hosts.local(7));
+            }
             int held = Math.min(sent, 12);
             for (int i = 0; i < held && sent - i >= 3; i++) {
                 check.out(i + " before " + sent, host, i, 5, Hosts.local(sent - i), (sent - i) % 4);
