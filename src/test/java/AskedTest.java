@@ -16,6 +16,8 @@ public final class AskedTest {
     }
 
     private static void findsDuplicates() {
+        check.under("ASKED for an address t by s: s NONE: if t is an own one: tentative: it is "
+                + "duplicate");
         LinkHost host = new LinkHost(7);
         host.tick(1);
         host.asked(0, OWN, 3);
@@ -34,6 +36,7 @@ public final class AskedTest {
     }
 
     private static void tellsTheGroup() {
+        check.under("usable: TOLD to GROUP.");
         LinkHost host = Hosts.ready(7);
         host.asked(0, OWN, 3);
         check.out("told", host, 0, 3, Hosts.GROUP, OWN);
@@ -46,6 +49,7 @@ public final class AskedTest {
     }
 
     private static void tellsTheAsker() {
+        check.under("and TOLD to s. TOLD is kind 3, X is t.");
         LinkHost host = Hosts.ready(7);
         host.asked(ASKER, OWN, 3);
         check.out("told", host, 0, 3, ASKER, OWN);
@@ -59,6 +63,8 @@ public final class AskedTest {
     }
 
     private static void changesTheAsker() {
+        check.under("a neighbour s is made or changed by the link number, as with routers (but "
+                + "whether it is a router is as it was, at first not)");
         LinkHost host = Hosts.ready(7);
         host.send(ASKER, 12);
         host.asked(ASKER, OWN, 3);
@@ -77,6 +83,7 @@ public final class AskedTest {
     }
 
     private static void doesNothingElse() {
+        check.under("Asked for t by s (NONE or an address) with a link number.");
         LinkHost host = new LinkHost(7);
         host.asked(ASKER, OWN, 3);
         check.due("tentative", host.own(0), Hosts.owned(Hosts.TENTATIVE, OWN));
@@ -95,6 +102,8 @@ public final class AskedTest {
     }
 
     private static void refusesWrongArguments() {
+        check.under("IllegalArgumentException: t or s is no address (s may be NONE), or there is "
+                + "no such number.");
         int[][] wrong = {
             {0, 0, 1}, {0, 255, 1}, {0, 256, 1}, {0, 511, 1}, {0, Hosts.GROUP, 1}, {0, -257, 1},
             {0, Hosts.address(251, 1), 1}, {0, Hosts.address(0, 7), 1},
@@ -116,6 +125,7 @@ public final class AskedTest {
     }
 
     private static void refusesWhileDown() {
+        check.under("IllegalStateException: the host is down.");
         LinkHost down = Hosts.down(7);
         check.badState("asked by NONE", () -> down.asked(0, OWN, 3));
         check.badState("asked", () -> down.asked(ASKER, OWN, 3));

@@ -1,3 +1,5 @@
+import java.util.function.Predicate;
+
 /** Compares answers with those that are due, and tells at the end how many were not. */
 final class Check {
     interface Call {
@@ -22,6 +24,10 @@ final class Check {
         note(got == want, what + " answered " + got + ", due is " + want);
     }
 
+    void holds(String what, boolean asDue) {
+        note(asDue, what + " does not hold");
+    }
+
     void same(String what, String got, String want) {
         note(got.equals(want), what + " is " + got + ", due is " + want);
     }
@@ -40,6 +46,17 @@ final class Check {
 
     void goesThrough(String what, Call call) {
         dueThrow(what, call, null);
+    }
+
+    /** The call throws nothing, or one of a class that may come, by a throw of LinkHost. */
+    void throwsAtMost(String what, Call call, Predicate<Class<?>> mayCome) {
+        try {
+            call.make();
+        } catch (RuntimeException e) {
+            note(mayCome.test(e.getClass()) && isThrownByTheClass(e), what + " threw " + e);
+            return;
+        }
+        note(true, what);
     }
 
     /** What was sent i before the latest. */

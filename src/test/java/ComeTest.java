@@ -44,6 +44,10 @@ public final class ComeTest {
     }
 
     private static void looksAtEachKind() {
+        check.under("0 HOPS, as the first one, and 1 OPTIONS: 0 goes on; 1 ends; 2 ends with a "
+                + "FAULT 2; 3 likewise, unless the packet is to GROUP. 0 elsewhere: a fault 1. 2 "
+                + "ROUTE: 0 goes on; else a fault 0. 3 PART: 0 goes on; else ends. 4 NOTHING: "
+                + "ends.");
         for (int kind = 0; kind <= 9; kind++) {
             for (int number = 0; number <= 3; number++) {
                 looksAtOne(kind, number, OWN);
@@ -67,6 +71,7 @@ public final class ComeTest {
     }
 
     private static void looksAtEachKindBehindAnother() {
+        check.under("A fault f at header i ends it: kind 6, to where it came from, X 16 * i + f");
         int[][] kindNumberAndFault = {
             {0, 0, 1}, {0, 1, 1}, {0, 2, 1}, {0, 3, 1}, {1, 2, 2}, {1, 3, 2}, {2, 1, 0}, {2, 3, 0},
             {7, 0, 1}, {8, 3, 1}, {9, 1, 1},
@@ -90,6 +95,9 @@ public final class ComeTest {
     }
 
     private static void looksAtThemInTheirOrder() {
+        check.under("A PACKET THAT COMES has headers, each a kind 0 .. 9 and a number 0 .. 3, in "
+                + "a row, from an address, to an own usable one or to GROUP (else nothing "
+                + "happens). They are looked at from the first on:");
         LinkHost host = Hosts.ready(7);
         check.due("all", comeWith(host, FROM, OWN, 0, 0, 1, 0, 2, 0, 3, 0, 1, 0), 6);
         check.due("taken", host.count(8), 1);
@@ -104,6 +112,8 @@ public final class ComeTest {
     }
 
     private static void sendsAnEcho() {
+        check.under("5 ECHO: ends, and an ECHO is sent: kind 5, to where it came from, X the "
+                + "number.");
         LinkHost host = Hosts.ready(7);
         for (int number = 0; number <= 3; number++) {
             check.due("echo", comeWith(host, FROM + number, OWN, 5, number), 1);
@@ -117,6 +127,7 @@ public final class ComeTest {
     }
 
     private static void takesData() {
+        check.under("6 DATA: ends; it is TAKEN.");
         LinkHost host = Hosts.ready(7);
         comeWith(host, FROM, OWN);
         comeWith(host, FROM, Hosts.GROUP);
@@ -127,6 +138,8 @@ public final class ComeTest {
     }
 
     private static void spendsTheBucket() {
+        check.under("and if the BUCKET is not empty: it has 3 at first, a fault takes one, and in "
+                + "each tick whose time can be divided by 4 one comes, up to 3.");
         LinkHost host = Hosts.ready(7);
         for (int left = 2; left >= 0; left--) {
             comeWith(host, FROM, OWN, 7, 0);
@@ -145,6 +158,8 @@ public final class ComeTest {
     }
 
     private static void answersNothingToNone() {
+        check.under("(Where anything would be sent to NONE, nothing is sent, and nothing taken "
+                + "from the bucket.)");
         LinkHost host = Hosts.ready(7);
         check.due("a fault", comeWith(host, 0, OWN, 7, 0), 1);
         check.due("a fault", comeWith(host, 0, Hosts.GROUP, 1, 2), 1);
@@ -154,6 +169,7 @@ public final class ComeTest {
     }
 
     private static void comesOnlyToUsableAddresses() {
+        check.under("to an own usable one or to GROUP (else nothing happens).");
         LinkHost host = new LinkHost(7);
         check.due("tentative", comeWith(host, FROM, OWN), 0);
         check.due("GROUP", comeWith(host, FROM, Hosts.GROUP), 1);
@@ -174,6 +190,8 @@ public final class ComeTest {
     }
 
     private static void refusesWrongArguments() {
+        check.under("IllegalArgumentException: from is no address (it may be NONE), or to neither "
+                + "one nor GROUP.");
         int[][] wrong = {
             {-1, OWN}, {255, OWN}, {256, OWN}, {511, OWN}, {Hosts.GROUP, OWN},
             {Hosts.address(251, 1), OWN}, {FROM, 0}, {FROM, 255}, {FROM, 511}, {FROM, -1},
@@ -191,6 +209,7 @@ public final class ComeTest {
     }
 
     private static void refusesWhileDown() {
+        check.under("IllegalStateException: the host is down. (The headers stay when it throws.)");
         LinkHost down = Hosts.down(7);
         down.header(6, 0);
         check.badState("come", () -> down.come(FROM, OWN));

@@ -10,6 +10,10 @@ public final class CountTest {
     }
 
     private static void countsEachThing() {
+        check.under("Something of the host: 0 the time, 1 how many own addresses, 2 routers, 3 "
+                + "on-link prefixes, 4 neighbours, 5 paths there are, 6 how many were sent in "
+                + "all, 7 packets lost, 8 packets taken, 9 what is in the bucket, 10 the link's "
+                + "size, 11 whether it is down (1, else 0).");
         LinkHost host = Hosts.ready(7);
         host.prefix(11, 3, 1000, 1000);
         host.prefix(12, 1, 1000, 1000);
@@ -39,6 +43,7 @@ public final class CountTest {
     }
 
     private static void answersWhileDown() {
+        check.under("11 whether it is down (1, else 0).");
         LinkHost down = Hosts.down(7);
         check.due("down", down.count(11), 1);
         check.due("own addresses", down.count(1), 1);
@@ -46,6 +51,7 @@ public final class CountTest {
     }
 
     private static void refusesOtherNumbers() {
+        check.under("IllegalArgumentException: any other number.");
         LinkHost host = Hosts.ready(7);
         LinkHost down = Hosts.down(7);
         int[] wrong = {-1, 12, Integer.MIN_VALUE, Integer.MAX_VALUE};

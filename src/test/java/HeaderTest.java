@@ -11,6 +11,7 @@ public final class HeaderTest {
     }
 
     private static void countsHeaders() {
+        check.under("One more header of the packet that will come next: how many there are.");
         LinkHost host = Hosts.ready(7);
         check.due("first", host.header(0, 0), 1);
         check.due("second", host.header(9, 3), 2);
@@ -19,6 +20,7 @@ public final class HeaderTest {
     }
 
     private static void refusesASeventh() {
+        check.under("IllegalStateException: there are 6.");
         LinkHost host = Hosts.ready(7);
         for (int i = 1; i <= 6; i++) {
             check.due("header " + i, host.header(3, 0), i);
@@ -30,6 +32,7 @@ public final class HeaderTest {
     }
 
     private static void refusesWrongArguments() {
+        check.under("IllegalArgumentException: there is no such kind or number");
         LinkHost host = Hosts.ready(7);
         int[][] wrong = {
             {-1, 0}, {10, 0}, {0, -1}, {0, 4}, {Integer.MIN_VALUE, 0}, {0, Integer.MAX_VALUE},
@@ -41,6 +44,8 @@ public final class HeaderTest {
     }
 
     private static void staysWhileDown() {
+        check.under("IllegalArgumentException: there is no such kind or number; "
+                + "IllegalStateException: there are 6.");
         LinkHost down = Hosts.down(7);
         check.due("first", down.header(6, 0), 1);
         check.due("second", down.header(6, 0), 2);

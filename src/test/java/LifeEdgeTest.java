@@ -250,7 +250,8 @@ public final class LifeEdgeTest {
     }
 
     private static void localLivesForEver() {
-        check.under("LOCAL is formed at the beginning, with lives that never end.");
+        check.under("With the host's id, LOCAL is formed at the beginning, with lives that never "
+                + "end.");
         LinkHost host = at(1);
         check.due("until, tentative", host.until(0), -1);
         host.tick(1);

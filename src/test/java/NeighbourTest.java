@@ -10,6 +10,8 @@ public final class NeighbourTest {
     }
 
     private static void tellsWhatItIs() {
+        check.under("A NEIGHBOUR has an address, a link number (0 while it is sought), whether it "
+                + "is a router, and a STATE: 1 SOUGHT, 2 REACHABLE, 3 STALE, 4 DELAY, 5 PROBED.");
         LinkHost host = Hosts.ready(7);
         int friend = Hosts.local(9);
         check.due("none", host.neighbour(friend), 0);
@@ -29,6 +31,8 @@ public final class NeighbourTest {
     }
 
     private static void aMadeOneIsNoRouter() {
+        check.under("A NEIGHBOUR has an address, a link number (0 while it is sought), whether it "
+                + "is a router");
         LinkHost host = Hosts.withPrefix(7);
         int router = Hosts.local(9);
         host.router(9, 3, 1000, 0);
@@ -42,6 +46,8 @@ public final class NeighbourTest {
     }
 
     private static void answersAnyNumber() {
+        check.under("Of the neighbour with an address: its state, 8 times its link number, 1024 "
+                + "if it is a router, 2048 if a packet waits, together; 0 if there is none.");
         LinkHost host = Hosts.ready(7);
         host.router(9, 3, 1000, 0);
         int[] any = {0, -1, 1, 255, Hosts.GROUP, Integer.MIN_VALUE, Integer.MAX_VALUE};

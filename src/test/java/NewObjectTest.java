@@ -10,6 +10,7 @@ public final class NewObjectTest {
     }
 
     private static void formsItsLocalAddress() {
+        check.under("time 0, its local address is formed.");
         LinkHost host = new LinkHost(7);
         check.due("time", host.count(0), 0);
         check.due("own addresses", host.count(1), 1);
@@ -20,6 +21,7 @@ public final class NewObjectTest {
     }
 
     private static void keepsTheIdInItsRange() {
+        check.under("A host with an id (at least 1, at most 254)");
         int[][] idsAndWanted = {
             {1, 1}, {254, 254}, {0, 1}, {-1, 1}, {255, 254}, {300, 254},
             {Integer.MIN_VALUE, 1}, {Integer.MAX_VALUE, 254},
@@ -32,6 +34,8 @@ public final class NewObjectTest {
     }
 
     private static void startsWithNothingElse() {
+        check.under("A host with an id (at least 1, at most 254); time 0, its local address is "
+                + "formed.");
         LinkHost host = new LinkHost(7);
         for (int which = 2; which <= 5; which++) {
             check.due("row " + which, host.count(which), 0);

@@ -10,6 +10,8 @@ public final class OutTest {
     }
 
     private static void holdsEachKind() {
+        check.under("OUT is the row of what the host sent, each with a KIND, a number TO and a "
+                + "number X");
         LinkHost host = Hosts.ready(7);
         int friend = Hosts.local(9);
         host.send(friend, 5);
@@ -30,6 +32,7 @@ public final class OutTest {
     }
 
     private static void holdsTheLatestTwelve() {
+        check.under("The kind of what was sent i before the latest (0: the latest).");
         for (int sent = 3; sent <= 40; sent++) {
             LinkHost host = Hosts.ready(7);
             for (int k = 3; k <= sent; k++) {
@@ -52,6 +55,7 @@ public final class OutTest {
     }
 
     private static void refusesOtherIndices() {
+        check.under("IndexOutOfBoundsException: OUT does not hold it.");
         LinkHost host = new LinkHost(7);
         int[] wrong = {-1, 1, 12, Integer.MIN_VALUE, Integer.MAX_VALUE};
         for (int i : wrong) {

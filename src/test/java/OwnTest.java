@@ -10,6 +10,7 @@ public final class OwnTest {
     }
 
     private static void tellsEachState() {
+        check.under("have a STATE: 1 TENTATIVE, 2 PREFERRED, 3 DEPRECATED, 4 DUPLICATE.");
         LinkHost host = Hosts.ready(7);
         host.prefix(250, 2, 100, 0);
         host.prefix(3, 2, 100, 100);
@@ -23,6 +24,7 @@ public final class OwnTest {
     }
 
     private static void tellsTheEndOfLives() {
+        check.under("When the valid life of own address i ends, -1 for never.");
         LinkHost host = Hosts.ready(7);
         host.prefix(5, 2, 999, 10);
         host.tick(3);
@@ -37,6 +39,7 @@ public final class OwnTest {
     }
 
     private static void refusesOtherIndices() {
+        check.under("IndexOutOfBoundsException: there is none.");
         LinkHost host = Hosts.ready(7);
         host.prefix(5, 2, 3, 3);
         int[] wrong = {-1, 2, Integer.MIN_VALUE, Integer.MAX_VALUE};

@@ -27,6 +27,8 @@ public final class PrefixTest {
     }
 
     private static void formsAnAddress() {
+        check.under("if the host has no address with that prefix: if the valid life is not 0 and "
+                + "there are fewer than 5, it is formed");
         LinkHost host = formed(100, 30);
         check.due("tentative", host.own(1), Hosts.owned(Hosts.TENTATIVE, FORMED));
         check.due("until", host.until(1), 102);
@@ -41,6 +43,7 @@ public final class PrefixTest {
     }
 
     private static void settlesAsDeprecatedIfItMust() {
+        check.under("it is preferred (or deprecated, if its preferred life is over)");
         int[][] livesAndStates = {
             {0, Hosts.DEPRECATED}, {1, Hosts.DEPRECATED}, {2, Hosts.DEPRECATED},
             {3, Hosts.PREFERRED},
@@ -56,6 +59,8 @@ public final class PrefixTest {
     }
 
     private static void livesEndInTime() {
+        check.under("When the preferred life is over, a preferred one is deprecated; when its "
+                + "valid life is over, it is taken away");
         LinkHost host = formed(20, 10);
         host.tick(9);
         check.due("preferred", host.own(1), Hosts.owned(Hosts.PREFERRED, FORMED));
@@ -77,6 +82,7 @@ public final class PrefixTest {
     }
 
     private static void validLifeGoesBeforeAllElse() {
+        check.under("it is taken away (a duplicate one, too; this goes before all else in a tick)");
         LinkHost one = formed(1, 1);
         one.tick(1);
         check.due("taken away", one.count(1), 1);
@@ -95,6 +101,9 @@ public final class PrefixTest {
     }
 
     private static void doesNotForm() {
+        check.under("If it tells FORM (flag 2), and the preferred life is not greater than the "
+                + "valid one: if the host has no address with that prefix: if the valid life is "
+                + "not 0");
         LinkHost host = Hosts.ready(7);
         host.prefix(5, 2, 0, 0);
         check.due("valid life 0", host.count(1), 1);
@@ -111,6 +120,7 @@ public final class PrefixTest {
     }
 
     private static void formsFiveAtMost() {
+        check.under("and there are fewer than 5, it is formed");
         LinkHost host = Hosts.ready(7);
         for (int prefix = 2; prefix <= 6; prefix++) {
             host.prefix(prefix, 2, prefix == 3 ? 10 : 100, 10);
@@ -129,6 +139,9 @@ public final class PrefixTest {
     }
 
     private static void renewsThePreferredLife() {
+        check.under("else, unless it is duplicate, its preferred life is that told (if it is not "
+                + "tentative, it is preferred, or deprecated if that is 0), and its valid life is "
+                + "that told");
         LinkHost host = formed(100, 50);
         host.prefix(5, 2, 100, 0);
         check.due("tentative stays so", host.own(1), Hosts.owned(Hosts.TENTATIVE, FORMED));
@@ -153,6 +166,8 @@ public final class PrefixTest {
     }
 
     private static void renewsTheValidLife() {
+        check.under("its valid life is that told, if that is more than 20, or more than what it "
+                + "has left; otherwise, if it has more than 20 left, it has 20.");
         int[][] leftToldAndWanted = {
             {100, 50, 50}, {100, 21, 21}, {100, 20, 20}, {100, 5, 20}, {100, 0, 20},
             {100, 1000, 1000}, {21, 20, 20}, {21, 1, 20}, {20, 1, 20}, {20, 0, 20}, {20, 20, 20},
@@ -176,6 +191,7 @@ public final class PrefixTest {
     }
 
     private static void leavesDuplicatesAlone() {
+        check.under("else, unless it is duplicate");
         LinkHost host = formed(100, 50);
         host.told(FORMED, 3, 0);
         host.prefix(5, 2, 500, 400);
@@ -187,6 +203,7 @@ public final class PrefixTest {
     }
 
     private static void keepsOnLinkPrefixes() {
+        check.under("Heard of a prefix, with flags 0 .. 3 and its lives.");
         LinkHost host = Hosts.withPrefix(7);
         for (int prefix = 11; prefix <= 14; prefix++) {
             host.prefix(prefix, 1, prefix == 14 ? 5 : 1000, 1000);
@@ -212,6 +229,7 @@ public final class PrefixTest {
     }
 
     private static void leavesLocalAlone() {
+        check.under("HEARD OF A PREFIX, if it is not LOCAL, with a valid and a preferred life:");
         LinkHost host = Hosts.ready(7);
         host.prefix(1, 3, 10, 0);
         check.due("preferred", host.own(0), Hosts.owned(Hosts.PREFERRED, Hosts.local(7)));
@@ -220,6 +238,8 @@ public final class PrefixTest {
     }
 
     private static void refusesWrongArguments() {
+        check.under("IllegalArgumentException: the prefix is not 1 .. 250, the flags are not 0 .. "
+                + "3, or a life not 0 .. 1000.");
         int[][] wrong = {
             {0, 3, 1, 1}, {251, 3, 1, 1}, {-1, 3, 1, 1}, {5, -1, 1, 1}, {5, 4, 1, 1},
             {5, 3, -1, 1}, {5, 3, 1001, 1}, {5, 3, 1, -1}, {5, 3, 1, 1001},
@@ -240,6 +260,7 @@ public final class PrefixTest {
     }
 
     private static void refusesWhileDown() {
+        check.under("IllegalStateException: the host is down.");
         LinkHost down = Hosts.down(7);
         check.badState("prefix", () -> down.prefix(5, 3, 10, 10));
         check.badState("prefix of LOCAL", () -> down.prefix(1, 3, 10, 10));

@@ -16,6 +16,8 @@ public final class RouterTest {
     }
 
     private static void makesAStaleNeighbour() {
+        check.under("HEARD FROM A ROUTER (r is the address of LOCAL with its id), with a link "
+                + "number: a neighbour r is made as stale with that number, if there is none");
         LinkHost host = Hosts.ready(7);
         host.router(9, 3, 50, 0);
         check.due("neighbour", host.neighbour(Hosts.local(9)),
@@ -25,6 +27,7 @@ public final class RouterTest {
     }
 
     private static void changesTheNumber() {
+        check.under("if the number is another one (or r is sought), it has it, and is stale");
         LinkHost host = Hosts.ready(7);
         int router = Hosts.local(9);
         host.router(9, 3, 50, 0);
@@ -40,6 +43,8 @@ public final class RouterTest {
     }
 
     private static void answersTheSearch() {
+        check.under("What waits is SENT to a neighbour, and any packet, so: kind 4, to its "
+                + "address, X the size; if it is stale, it is in delay then.");
         LinkHost host = Hosts.ready(7);
         int router = Hosts.local(9);
         host.send(router, 11);
@@ -57,6 +62,7 @@ public final class RouterTest {
     }
 
     private static void isARouterWhateverTheLife() {
+        check.under("the neighbour is a router from then on (whatever the life).");
         LinkHost host = Hosts.ready(7);
         host.router(9, 3, 0, 0);
         check.due("no router", host.count(2), 0);
@@ -69,6 +75,8 @@ public final class RouterTest {
     }
 
     private static void livesAsLongAsTold() {
+        check.under("Its life 0: r goes from the ROUTERS; else it is among them until its life "
+                + "ends.");
         LinkHost host = Hosts.ready(7);
         host.router(9, 3, 5, 0);
         host.tick(4);
@@ -99,6 +107,8 @@ public final class RouterTest {
     }
 
     private static void keepsTheLatestThree() {
+        check.under("are rows in the order in which they came; when one more comes to a full row, "
+                + "the first one goes");
         LinkHost host = Hosts.withPrefix(7);
         for (int id = 10; id <= 13; id++) {
             host.router(id, id, 1000, 0);
@@ -115,6 +125,8 @@ public final class RouterTest {
     }
 
     private static void setsTheLinkSize() {
+        check.under("Heard from a router: its id (the address is local), link number, life, the "
+                + "link's size.");
         LinkHost host = Hosts.ready(7);
         int[][] sizesAndWanted = {
             {8, 8}, {7, 8}, {40, 40}, {41, 40}, {30, 30}, {0, 30}, {99, 30}, {39, 39},
@@ -126,6 +138,8 @@ public final class RouterTest {
     }
 
     private static void refusesWrongArguments() {
+        check.under("IllegalArgumentException: id is not 1 .. 254, or number not 1 .. 99, life "
+                + "not 0 .. 1000, or size not 0 .. 99.");
         int[][] wrong = {
             {0, 1, 1, 1}, {255, 1, 1, 1}, {-1, 1, 1, 1}, {1, 0, 1, 1}, {1, 100, 1, 1},
             {1, 1, -1, 1}, {1, 1, 1001, 1}, {1, 1, 1, -1}, {1, 1, 1, 100},
@@ -145,6 +159,7 @@ public final class RouterTest {
     }
 
     private static void refusesWhileDown() {
+        check.under("IllegalStateException: the host is down.");
         LinkHost down = Hosts.down(7);
         check.badState("router", () -> down.router(9, 3, 50, 20));
         check.due("no routers", down.count(2), 0);

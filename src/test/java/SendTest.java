@@ -25,6 +25,8 @@ public final class SendTest {
     }
 
     private static void needsAnAddressOfItsOwn() {
+        check.under("4 NO ADDRESS: no own address is usable that is local (if it goes to LOCAL) "
+                + "or not local (else).");
         LinkHost host = new LinkHost(7);
         host.router(10, 3, 100, 0);
         check.due("tentative", host.send(FRIEND, 5), NO_ADDRESS);
@@ -51,6 +53,8 @@ public final class SendTest {
     }
 
     private static void isNotTooGreat() {
+        check.under("2 TOO GREAT: the size is more than the path's size to that address (the "
+                + "link's size if there is none, or that is less).");
         LinkHost host = Hosts.ready(7);
         check.due("40", host.send(FRIEND, 40), WAITS);
         host.router(10, 3, 100, 20);
@@ -67,6 +71,8 @@ public final class SendTest {
     }
 
     private static void needsAWay() {
+        check.under("3 NO WAY: it does not go to LOCAL, nor to an on-link prefix, and there is no "
+                + "router.");
         LinkHost host = Hosts.withPrefix(7);
         check.due("no router", host.send(FAR, 5), NO_WAY);
         check.due("local", host.send(FRIEND, 5), WAITS);
@@ -84,6 +90,7 @@ public final class SendTest {
     }
 
     private static void theFirstThatHolds() {
+        check.under("TO SEND a packet of a size to an address: the first that holds:");
         LinkHost host = Hosts.ready(7);
         host.router(10, 3, 0, 10);
         check.due("no address before too great", host.send(FAR, 11), NO_ADDRESS);
@@ -98,6 +105,7 @@ public final class SendTest {
     }
 
     private static void waitsForANeighbour() {
+        check.under("1 WAITS: the hop's neighbour is sought, or is made so.");
         LinkHost host = Hosts.ready(7);
         check.due("waits", host.send(FRIEND, 5), WAITS);
         check.out("asked for", host, 0, 2, Hosts.GROUP, FRIEND);
@@ -111,6 +119,7 @@ public final class SendTest {
     }
 
     private static void goesToAKnownNeighbour() {
+        check.under("0 SENT: it is sent to the hop's neighbour.");
         LinkHost host = Hosts.ready(7);
         host.send(FRIEND, 5);
         host.told(FRIEND, 3, 2);
@@ -128,6 +137,8 @@ public final class SendTest {
     }
 
     private static void picksTheRouter() {
+        check.under("The HOP is the address itself, or the first router whose neighbour is there "
+                + "and not sought, else the first router.");
         LinkHost host = Hosts.withPrefix(7);
         int first = Hosts.local(10);
         int second = Hosts.local(11);
@@ -149,6 +160,8 @@ public final class SendTest {
     }
 
     private static void seeksARouterAgain() {
+        check.under("else the first router. 1 WAITS: the hop's neighbour is sought, or is made "
+                + "so.");
         LinkHost host = Hosts.withPrefix(7);
         int first = Hosts.local(10);
         host.router(10, 3, 1000, 0);
@@ -167,6 +180,8 @@ public final class SendTest {
     }
 
     private static void keepsSixNeighbours() {
+        check.under("when one more comes to a full row, the first one goes (a packet that waits "
+                + "for it is not counted).");
         LinkHost host = Hosts.ready(7);
         for (int id = 10; id <= 16; id++) {
             host.send(Hosts.local(id), 5);
@@ -187,6 +202,7 @@ public final class SendTest {
     }
 
     private static void refusesWrongArguments() {
+        check.under("IllegalArgumentException: to is no address, or the size not 1 .. 40.");
         int[][] wrong = {
             {0, 5}, {255, 5}, {256, 5}, {511, 5}, {Hosts.GROUP, 5}, {-1, 5}, {-265, 5},
             {Hosts.address(251, 1), 5}, {FRIEND, 0}, {FRIEND, 41}, {FRIEND, -1},
@@ -205,6 +221,7 @@ public final class SendTest {
     }
 
     private static void refusesWhileDown() {
+        check.under("IllegalStateException: the host is down.");
         LinkHost down = Hosts.down(7);
         check.badState("send", () -> down.send(FRIEND, 5));
         check.due("no neighbour", down.count(4), 0);

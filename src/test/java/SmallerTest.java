@@ -16,6 +16,9 @@ public final class SmallerTest {
     }
 
     private static void makesAPath() {
+        check.under("PATHS: heard that packets to an address may have a size m: below 8 nothing; "
+                + "else, if the size that a packet may have now is more than m, a path to that "
+                + "address is made");
         LinkHost host = Hosts.ready(7);
         host.smaller(FAR, 40);
         check.due("not smaller", host.count(5), 0);
@@ -33,6 +36,7 @@ public final class SmallerTest {
     }
 
     private static void changesAPath() {
+        check.under("or that there is has the size m, for 30 ticks from now on.");
         LinkHost host = Hosts.ready(7);
         host.smaller(FAR, 20);
         host.tick(10);
@@ -53,6 +57,7 @@ public final class SmallerTest {
     }
 
     private static void pathsEnd() {
+        check.under("for 30 ticks from now on.");
         LinkHost host = Hosts.ready(7);
         host.smaller(FAR, 20);
         host.tick(29);
@@ -63,6 +68,7 @@ public final class SmallerTest {
     }
 
     private static void theLinkSizeLimitsAll() {
+        check.under("The size that a packet to an address may have: the path's, or the link's.");
         LinkHost host = Hosts.ready(7);
         host.smaller(FAR, 30);
         host.router(10, 3, 0, 20);
@@ -79,6 +85,7 @@ public final class SmallerTest {
     }
 
     private static void keepsFourPaths() {
+        check.under("when one more comes to a full row, the first one goes");
         LinkHost host = Hosts.ready(7);
         for (int id = 1; id <= 4; id++) {
             host.smaller(Hosts.address(20, id), 20 + id);
@@ -93,6 +100,7 @@ public final class SmallerTest {
     }
 
     private static void answersAnyNumber() {
+        check.under("The size that a packet to an address may have: the path's, or the link's.");
         LinkHost host = new LinkHost(7);
         int[] any = {0, -1, 255, Hosts.GROUP, Integer.MIN_VALUE, Integer.MAX_VALUE};
         for (int address : any) {
@@ -102,6 +110,7 @@ public final class SmallerTest {
     }
 
     private static void refusesWrongArguments() {
+        check.under("IllegalArgumentException: to is no address, or size not 0 .. 40.");
         int[][] wrong = {
             {0, 10}, {255, 10}, {256, 10}, {511, 10}, {Hosts.GROUP, 10}, {-1, 10},
             {Hosts.address(251, 1), 10}, {FAR, -1}, {FAR, 41},
@@ -119,6 +128,7 @@ public final class SmallerTest {
     }
 
     private static void refusesWhileDown() {
+        check.under("IllegalStateException: the host is down.");
         LinkHost down = Hosts.down(7);
         check.badState("smaller", () -> down.smaller(FAR, 10));
         check.due("no path", down.count(5), 0);

@@ -17,6 +17,7 @@ public final class TickTest {
     }
 
     private static void countsTime() {
+        check.under("n ticks.");
         LinkHost host = new LinkHost(7);
         host.tick(1);
         check.due("one tick", host.count(0), 1);
@@ -25,6 +26,7 @@ public final class TickTest {
     }
 
     private static void refusesOtherNumbers() {
+        check.under("IllegalArgumentException: n is not 1 .. 100.");
         LinkHost host = new LinkHost(7);
         int[] wrong = {0, -1, 101, Integer.MIN_VALUE, Integer.MAX_VALUE};
         for (int n : wrong) {
@@ -36,6 +38,8 @@ public final class TickTest {
     }
 
     private static void probesTwiceAndPrefers() {
+        check.under("When one is FORMED it is tentative, and a PROBE is sent: kind 1, to GROUP, X "
+                + "the address.");
         LinkHost host = new LinkHost(7);
         host.tick(1);
         check.due("sent after one tick", host.count(6), 2);
@@ -50,6 +54,8 @@ public final class TickTest {
     }
 
     private static void seeksThreeTimes() {
+        check.under("To ASK for it: kind 2, to GROUP if it is sought, else to its address, X its "
+                + "address.");
         LinkHost host = Hosts.ready(7);
         int wanted = Hosts.local(9);
         host.send(wanted, 5);
@@ -67,6 +73,7 @@ public final class TickTest {
     }
 
     private static void losesOnlyWhatWaits() {
+        check.under("one more tick later it is taken away, and counts as LOST if a packet waits.");
         LinkHost host = Hosts.ready(7);
         host.router(9, 3, 1000, 0);
         host.send(Hosts.local(9), 5);
@@ -81,6 +88,7 @@ public final class TickTest {
     }
 
     private static void reachableGrowsStale() {
+        check.under("A reachable one is stale 10 ticks after it became so (the last time).");
         LinkHost host = Hosts.ready(7);
         int friend = Hosts.local(9);
         host.send(friend, 5);
@@ -99,6 +107,8 @@ public final class TickTest {
     }
 
     private static void delayIsProbedAndTakenAway() {
+        check.under("One in delay is probed 5 ticks after it became so: it is asked for then, and "
+                + "one and two ticks later; one more tick later it is taken away.");
         LinkHost host = Hosts.ready(7);
         int friend = Hosts.local(9);
         host.asked(friend, Hosts.local(7), 3);
@@ -122,6 +132,8 @@ public final class TickTest {
     }
 
     private static void rowsGoInTheirOrder() {
+        check.under("Two things that are due in one tick go by rows: own addresses, neighbours, "
+                + "routers, prefixes, paths; in a row from the first one on.");
         LinkHost host = Hosts.ready(7);
         int first = Hosts.local(9);
         int second = Hosts.local(10);
@@ -137,6 +149,7 @@ public final class TickTest {
     }
 
     private static void fillsTheBucket() {
+        check.under("in each tick whose time can be divided by 4 one comes, up to 3.");
         LinkHost host = Hosts.ready(7);
         for (int i = 0; i < 3; i++) {
             host.header(7, 0);
@@ -153,6 +166,7 @@ public final class TickTest {
     }
 
     private static void downHostOnlyCountsTime() {
+        check.under("it does nothing any more, but time goes on.");
         LinkHost host = new LinkHost(7);
         host.router(9, 3, 5, 20);
         host.prefix(5, 3, 5, 4);

@@ -20,6 +20,7 @@ public final class ToldTest {
     }
 
     private static void findsDuplicates() {
+        check.under("if t is an own tentative one, it is duplicate; otherwise, for a neighbour t:");
         LinkHost host = new LinkHost(7);
         host.told(Hosts.local(7), 3, 0);
         check.due("duplicate", host.own(0), Hosts.owned(Hosts.DUPLICATE, Hosts.local(7)));
@@ -40,6 +41,8 @@ public final class ToldTest {
     }
 
     private static void answersTheSearch() {
+        check.under("if it is sought: it has the number, is reachable if ASKED, else stale, and "
+                + "what waits is sent.");
         for (int flags = 0; flags <= 7; flags++) {
             LinkHost host = Hosts.ready(7);
             host.send(FRIEND, 5);
@@ -75,6 +78,8 @@ public final class ToldTest {
     }
 
     private static void changesAKnownNeighbour() {
+        check.under("Else: it has the number; it is reachable if ASKED, otherwise stale if the "
+                + "number was another one.");
         for (int state = Hosts.REACHABLE; state <= Hosts.PROBED; state++) {
             for (int flags = 0; flags <= 7; flags++) {
                 int router = (flags & ROUTER) != 0 ? Hosts.ROUTER : 0;
@@ -97,6 +102,8 @@ public final class ToldTest {
     }
 
     private static void leavesAnotherNumberAlone() {
+        check.under("Else, if the number is another one without OVERRIDE: it is stale if it was "
+                + "reachable, and nothing else.");
         for (int state = Hosts.REACHABLE; state <= Hosts.PROBED; state++) {
             for (int flags = 0; flags <= 3; flags++) {
                 LinkHost host = withFriend(state);
@@ -114,6 +121,7 @@ public final class ToldTest {
     }
 
     private static void countsReachabilityAnew() {
+        check.under("A reachable one is stale 10 ticks after it became so (the last time).");
         LinkHost host = withFriend(Hosts.PROBED);
         host.told(FRIEND, 3, ASKED);
         host.tick(9);
@@ -128,6 +136,8 @@ public final class ToldTest {
     }
 
     private static void takesFromTheRouters() {
+        check.under("In the first and the third case it is a router or not as told; and if it was "
+                + "one and is none, it goes from the routers, too.");
         LinkHost host = Hosts.ready(7);
         host.router(9, 3, 100, 0);
         host.router(10, 4, 100, 0);
@@ -147,6 +157,7 @@ public final class ToldTest {
     }
 
     private static void doesNothingForStrangers() {
+        check.under("Heard that t has a link number, with flags 0 .. 7.");
         LinkHost host = Hosts.ready(7);
         host.told(FRIEND, 3, 7);
         check.due("no neighbour", host.count(4), 0);
@@ -154,6 +165,8 @@ public final class ToldTest {
     }
 
     private static void refusesWrongArguments() {
+        check.under("IllegalArgumentException: t is no address, there is no such number, or the "
+                + "flags are out of range.");
         int[][] wrong = {
             {0, 1, 0}, {255, 1, 0}, {256, 1, 0}, {511, 1, 0}, {Hosts.GROUP, 1, 0}, {-1, 1, 0},
             {Hosts.address(251, 1), 1, 0}, {FRIEND, 0, 0}, {FRIEND, 100, 0}, {FRIEND, 1, -1},
@@ -171,6 +184,7 @@ public final class ToldTest {
     }
 
     private static void refusesWhileDown() {
+        check.under("IllegalStateException: the host is down.");
         LinkHost down = Hosts.down(7);
         check.badState("told", () -> down.told(FRIEND, 3, 0));
     }

@@ -56,6 +56,10 @@ public final class UsableEdgeTest {
                     + "LOCAL) or not local (else).");
             check.due("state " + state + ": send", host.send(NEAR, 5), usable ? 1 : 4);
             check.due("state " + state + ": send local", host.send(FRIEND, 5), 1);
+            check.under("An address is USABLE if it is preferred or deprecated.");
+            host.asked(Hosts.NONE, FORMED, 3);
+            check.due("state " + state + ": asked for", host.outKind(0) == 3 ? 1 : 0,
+                    usable ? 1 : 0);
         }
     }
 
